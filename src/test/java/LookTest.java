@@ -7,6 +7,7 @@ public final class LookTest {
         votesAreCounted();
         theVoteIsLentTo();
         messagesLieInTheirOrder();
+        aWireHoldsSix();
         nodesTellOfBothSides();
         rowsAreInOrder();
         wrongNumbersAnswerNone();
@@ -64,6 +65,50 @@ public final class LookTest {
         DUE.is("the second is the first now", lock.look(0, 2, 0, 0), 1);
         DUE.is("waiting the other way", lock.waiting(2, 0), 0);
         DUE.is("waiting elsewhere", lock.waiting(0, 1), 2);
+    }
+
+    /** The most that can lie on a wire: nothing of what 0 sends to 1 is delivered from a point on. */
+    private static void aWireHoldsSix() {
+        QuorumLock lock = new QuorumLock(2);
+        lock.request(0);
+        lock.request(1);
+        int[][] oneGetsAllVotes = {{1, 0}, {1, 1}, {1, 3}, {3, 1}, {1, 1}, {0, 1}, {0, 1}};
+        deliverAll(lock, oneGetsAllVotes);
+        DUE.is("enter(1)", lock.enter(1), true);
+        lock.deliver(0, 0);
+        lock.release(1);
+        int[][] zeroGetsTwoVotes = {{1, 0}, {1, 1}, {1, 1}, {0, 0}, {1, 0}};
+        deliverAll(lock, zeroGetsTwoVotes);
+        lock.request(1);
+        int[][] zeroGetsTheThird = {{1, 0}, {0, 2}, {2, 0}};
+        deliverAll(lock, zeroGetsTheThird);
+        DUE.is("enter(0)", lock.enter(0), true);
+        lock.release(0);
+        lock.deliver(0, 0);
+        lock.request(2);
+        lock.deliver(2, 0);
+        lock.request(0);
+
+        int clock = lock.told(0, 1);
+        int[] kinds = {4, 6, 3, 2, 4, 1};
+        int[] times = {1, 9, 1, 9, 9, clock};
+        DUE.is("six lie there", lock.waiting(0, 1), 6);
+        for (int m = 0; m < 6; m++) {
+            DUE.is("kind of " + m + " of six", lock.look(0, 1, m, 0), kinds[m]);
+            DUE.is("TIME of " + m + " of six", lock.look(0, 1, m, 1), times[m]);
+        }
+        DUE.is("clock of the last", lock.look(0, 1, 5, 2), clock);
+        for (int m = 0; m < 6; m++) {
+            DUE.is("delivery " + m + " of six", lock.deliver(0, 1), kinds[m]);
+        }
+        DUE.empty(lock, "all six delivered", 0, 1);
+    }
+
+    private static void deliverAll(QuorumLock lock, int[][] wires) {
+        for (int[] wire : wires) {
+            DUE.is("one lies from " + wire[0] + " to " + wire[1],
+                    lock.deliver(wire[0], wire[1]) > 0, true);
+        }
     }
 
     private static void nodesTellOfBothSides() {
