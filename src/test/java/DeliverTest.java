@@ -14,10 +14,12 @@ public final class DeliverTest {
         aLaterRequestFails();
         anEarlierRequestInquires();
         anEarlierOneYetFailsTheOneBeforeIt();
+        aFailureBearsTheTimeOfTheOneThatFails();
         anEarlierOneBehindTheFirstFails();
         anInquiryIsKeptUntilAFailure();
         anInquiryAfterAFailureIsGivenUpAtOnce();
         aVoteGivenUpGoesToTheFirstOfTheRow();
+        aVoteIsGivenUpWhenAllOthersWait();
         inquiriesAreLeftOutInsideAndIdle();
         aReleaseLendsAnew();
         DUE.end();
@@ -135,6 +137,20 @@ public final class DeliverTest {
         DUE.is("and it inquires", lock.look(1, 2, 1, 0), 4);
     }
 
+    private static void aFailureBearsTheTimeOfTheOneThatFails() {
+        QuorumLock lock = new QuorumLock(4);
+        lock.request(0);
+        lock.deliver(0, 2);
+        lock.deliver(0, 3);
+        lock.request(2);
+        lock.request(3);
+        lock.deliver(3, 1);
+        lock.deliver(2, 1);
+        lock.deliver(0, 1);
+        DUE.is("its TIME", lock.told(2, 2), 3);
+        DUE.lies(lock, "the first fails", 1, 2, 6, 3, 6);
+    }
+
     private static void anEarlierOneBehindTheFirstFails() {
         QuorumLock lock = threeAskOne(3, 0, 2);
         DUE.is("the first", lock.waits(1, 0), 0);
@@ -142,6 +158,12 @@ public final class DeliverTest {
         DUE.lies(lock, "before the vote, but not the first", 1, 2, 6, 1, 4);
         DUE.empty(lock, "the first does not fail", 1, 0);
         DUE.is("LOCKED and one INQUIRE", lock.waiting(1, 3), 2);
+
+        lock = threeAskOne(5, 0, 2);
+        lock.request(3);
+        lock.deliver(3, 1);
+        DUE.lies(lock, "a third one fails", 1, 3, 6, 1, 5);
+        DUE.is("the second does not fail again", lock.waiting(1, 2), 1);
     }
 
     /** Node 3 has the votes of 1 and 3, and node 2's is lent to 0: so far it does not know. */
@@ -198,6 +220,24 @@ public final class DeliverTest {
         lock.settle(500);
         DUE.told(lock, "failures are votes now", 3, 1, lock.told(3, 1), 1, 0, 0, 14);
         DUE.is("enter(3)", lock.enter(3), true);
+    }
+
+    private static void aVoteIsGivenUpWhenAllOthersWait() {
+        QuorumLock lock = new QuorumLock(2);
+        lock.request(2);
+        lock.request(0);
+        lock.request(1);
+        int[][] wires = {{2, 0}, {0, 2}, {2, 2}, {2, 2}, {0, 0}, {1, 0}, {0, 2}, {0, 2}, {2, 0}};
+        int[] kinds = {1, 1, 1, 6, 1, 1, 2, 4, 2};
+        for (int i = 0; i < wires.length; i++) {
+            DUE.is("kind " + i, lock.deliver(wires[i][0], wires[i][1]), kinds[i]);
+        }
+        DUE.is("lent to the last of them", lock.lockedFor(0), 2);
+        DUE.is("RELINQUISH", lock.deliver(2, 0), 5);
+        DUE.is("lent to the first of them", lock.lockedFor(0), 0);
+        DUE.is("two wait", lock.told(0, 7), 2);
+        DUE.is("the second of them", lock.waits(0, 0), 1);
+        DUE.is("behind it the one that gave it up", lock.waits(0, 1), 2);
     }
 
     private static void inquiriesAreLeftOutInsideAndIdle() {

@@ -28,7 +28,9 @@ public final class SettleTest {
         QuorumLock lock = new QuorumLock(2);
         lock.request(3);
         lock.request(1);
-        int[][] wires = {{1, 0}, {0, 1}, {1, 1}, {1, 1}, {1, 3}, {3, 1}, {1, 3}, {3, 1}, {3, 2}, {2, 3}, {3, 3}, {3, 3}};
+        int[][] wires = {
+            {1, 0}, {0, 1}, {1, 1}, {1, 1}, {1, 3}, {3, 1},
+            {1, 3}, {3, 1}, {3, 2}, {2, 3}, {3, 3}, {3, 3}};
         for (int[] wire : wires) {
             int before = lock.waiting(wire[0], wire[1]);
             int clock = lock.told(wire[1], 1);
