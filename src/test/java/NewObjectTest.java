@@ -1,61 +1,69 @@
-/** Promises 1 and 2: the square of a new object, and what init() makes of a used one. */
+/** Promise 1: the square of a new object. */
 public final class NewObjectTest {
+    private static final int NONE = QuorumLock.NONE;
     private static final Due DUE = new Due();
 
     public static void main(String[] args) {
-        sidesAreKeptWithinOneAndFour();
-        aNewObjectIsFresh();
-        initMakesAUsedObjectFresh();
-        DUE.end();
+        DUE.run(
+                NewObjectTest::belowOneItIsOne,
+                NewObjectTest::oneToFourAreTaken,
+                NewObjectTest::aboveFourItIsFour,
+                NewObjectTest::itIsAsInitMakesIt,
+                NewObjectTest::nodesAreZeroToTheOneBeforeN);
     }
 
-    private static void sidesAreKeptWithinOneAndFour() {
-        int[] sides = {Integer.MIN_VALUE, -1, 0, 1, 2, 3, 4, 5, Integer.MAX_VALUE};
-        int[] nodes = {1, 1, 1, 1, 4, 9, 16, 16, 16};
-        for (int i = 0; i < sides.length; i++) {
-            QuorumLock lock = new QuorumLock(sides[i]);
-            DUE.is("k = " + sides[i] + ": its last node", lock.votesOf(nodes[i] - 1), 0);
-            DUE.is("k = " + sides[i] + ": one behind it", lock.votesOf(nodes[i]), QuorumLock.NONE);
+    private static void belowOneItIsOne() {
+        DUE.promise(1, "below 1 it is 1");
+        for (int k : new int[] {0, -1, -4, Integer.MIN_VALUE}) {
+            hasSide(k, 1);
         }
     }
 
-    private static void aNewObjectIsFresh() {
+    private static void oneToFourAreTaken() {
+        DUE.promise(1, "a square of k by k nodes");
         for (int k = 1; k <= 4; k++) {
-            isFresh("new with k = " + k, new QuorumLock(k), k * k);
+            hasSide(k, k);
         }
     }
 
-    private static void initMakesAUsedObjectFresh() {
+    private static void aboveFourItIsFour() {
+        DUE.promise(1, "above 4 it is 4");
+        for (int k : new int[] {5, 6, 16, 1 << 16, Integer.MAX_VALUE}) {
+            hasSide(k, 4);
+        }
+    }
+
+    /** So many nodes, and rows and columns of that length: seen by whom the last node asks. */
+    private static void hasSide(int k, int side) {
+        QuorumLock lock = new QuorumLock(k);
+        int last = side * side - 1;
+        String when = "k = " + k + ": ";
+        DUE.is(when + "its last node", lock.votesOf(last), 0);
+        DUE.is(when + "one behind it", lock.votesOf(last + 1), NONE);
+        DUE.is(when + "the last one asks", lock.request(last), 0);
+        for (int to = 0; to <= last; to++) {
+            int sent = to / side == side - 1 || to % side == side - 1 ? 1 : 0;
+            DUE.is(when + "waiting(" + last + ", " + to + ")", lock.waiting(last, to), sent);
+        }
+    }
+
+    private static void itIsAsInitMakesIt() {
+        DUE.promise(1, "as init() makes it");
         for (int k = 1; k <= 4; k++) {
-            QuorumLock lock = new QuorumLock(k);
-            int nodes = k * k;
-            useIt(lock, nodes);
-            lock.init();
-            isFresh("init with k = " + k, lock, nodes);
-            QuorumLock another = new QuorumLock(k);
-            useIt(lock, nodes);
-            useIt(another, nodes);
-            sameAll("used again with k = " + k, lock, another, nodes);
+            isFresh("k = " + k, new QuorumLock(k), k * k);
         }
-    }
-
-    private static void useIt(QuorumLock lock, int nodes) {
-        lock.request(nodes - 1);
-        lock.settle(500);
-        lock.enter(nodes - 1);
-        for (int node = 0; node < nodes - 1; node++) {
-            lock.request(node);
-        }
-        lock.settle(17);
+        QuorumLock begun = new QuorumLock(2);
+        begun.init();
+        DUE.same("a new one", Due.all(new QuorumLock(2)), Due.all(begun));
     }
 
     private static void isFresh(String when, QuorumLock lock, int nodes) {
-        DUE.is(when + ": holder()", lock.holder(), QuorumLock.NONE);
+        DUE.is(when + ": holder()", lock.holder(), NONE);
         DUE.is(when + ": entered()", lock.entered(), 0);
         for (int node = 0; node < nodes; node++) {
             DUE.told(lock, when, node, 0, 0, 0, 0, 0, 0, 0, 0);
-            DUE.is(when + ": lockedFor(" + node + ")", lock.lockedFor(node), QuorumLock.NONE);
-            DUE.is(when + ": waits(" + node + ", 0)", lock.waits(node, 0), QuorumLock.NONE);
+            DUE.is(when + ": lockedFor(" + node + ")", lock.lockedFor(node), NONE);
+            DUE.is(when + ": waits(" + node + ", 0)", lock.waits(node, 0), NONE);
             for (int to = 0; to < nodes; to++) {
                 DUE.empty(lock, when, node, to);
             }
@@ -63,15 +71,13 @@ public final class NewObjectTest {
         DUE.is(when + ": settle(500)", lock.settle(500), 0);
     }
 
-    private static void sameAll(String when, QuorumLock lock, QuorumLock another, int nodes) {
-        for (int node = 0; node < nodes; node++) {
-            for (int what = 0; what < 8; what++) {
-                DUE.is(when + ": told(" + node + ", " + what + ")",
-                        lock.told(node, what), another.told(node, what));
-            }
-            for (int to = 0; to < nodes; to++) {
-                DUE.is(when + ": waiting(" + node + ", " + to + ")",
-                        lock.waiting(node, to), another.waiting(node, to));
+    private static void nodesAreZeroToTheOneBeforeN() {
+        DUE.promise(1, "Terms: NODES are 0 .. n - 1");
+        for (int k = 1; k <= 4; k++) {
+            QuorumLock lock = new QuorumLock(k);
+            for (int node = -1; node <= k * k; node++) {
+                boolean is = node >= 0 && node < k * k;
+                DUE.is("k = " + k + ": votesOf(" + node + ")", lock.votesOf(node), is ? 0 : NONE);
             }
         }
     }
